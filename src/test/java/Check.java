@@ -1,0 +1,43 @@
+/** Counts the answers of one test that are as due and prints the others. */
+final class Check {
+  private final String test;
+  private int passed;
+  private int failed;
+
+  Check(String test) {
+    this.test = test;
+  }
+
+  void same(String what, long got, long due) {
+    if (got == due) {
+      passed++;
+    } else {
+      failed++;
+      System.out.println(test + ": " + what + " answered " + got + ", due is " + due);
+    }
+  }
+
+  void holds(String what, boolean got) {
+    same(what, got ? 1 : 0, 1);
+  }
+
+  void fails(String what, Class<? extends RuntimeException> due, Runnable call) {
+    String got = "nothing";
+    try {
+      call.run();
+    } catch (RuntimeException e) {
+      got = e.getClass().getName();
+    }
+    if (!got.equals(due.getName())) {
+      System.out.println(test + ": " + what + " threw " + got + ", due is " + due.getName());
+    }
+    same(what + " throws", got.equals(due.getName()) ? 1 : 0, 1);
+  }
+
+  void end() {
+    System.out.println(test + ": " + passed + " passed, " + failed + " failed");
+    if (failed > 0 || passed == 0) {
+      System.exit(1);
+    }
+  }
+}
