@@ -641,19 +641,22 @@ public final class ValueStream {
       return (tag & CHUNKED) != 0;
     }
 
+    private static int namesIn(int tag) {
+      return (tag - TAGS) & ~CHUNKED;
+    }
+
     private int takeTag(int depth, int level) {
       if (depth > MOST_DEPTH) {
         throw new UnsupportedOperationException("values too deep in one another");
       }
       int tag = takeInt();
-      int names = tag - TAGS & ~CHUNKED;
-      need(names == ONE_NAME || names == SEVERAL_NAMES, place - INT);
+      need(namesIn(tag) == ONE_NAME || namesIn(tag) == SEVERAL_NAMES, place - INT);
       need(isChunked(tag) || level == 0, place - INT);
       return tag;
     }
 
     private int takeNameCount(int tag) {
-      if ((tag - TAGS & ~CHUNKED) == ONE_NAME) {
+      if (namesIn(tag) == ONE_NAME) {
         return 1;
       }
       int count = takeInt();

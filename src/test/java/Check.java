@@ -34,6 +34,13 @@ final class Check {
     same(what + " throws", got.equals(due.getName()) ? 1 : 0, 1);
   }
 
+  /** The stream is malformed at a place, and reading it makes no node. */
+  void malformed(String what, ValueStream x, int place) {
+    int nodes = x.nodes();
+    same(what + ": read()", x.read(), -2 - place);
+    same(what + ": nodes()", x.nodes(), nodes);
+  }
+
   void end() {
     System.out.println(test + ": " + passed + " passed, " + failed + " failed");
     if (failed > 0 || passed == 0) {

@@ -41,12 +41,6 @@ public final class ChunksTest {
     return x;
   }
 
-  private static void malformed(String what, ValueStream x, int place) {
-    int nodes = x.nodes();
-    check.same(what + ": read()", x.read(), -2 - place);
-    check.same(what + ": nodes()", x.nodes(), nodes);
-  }
-
   /** The tag stands at 4, the name at 8, and the first int behind it at 16. */
   private static Feed begin(ValueStream x, int order, String name) {
     return new Feed(x, order).ints(Feed.ONE_CHUNKED).name(name);
@@ -67,7 +61,7 @@ public final class ChunksTest {
     begin(x, order, "c").ints(-1);
     check.same("no chunk", x.read(), 1);
     begin(x, order, "c").ints(4, 0, -1);
-    malformed("a chunk where there is no state", x, 16);
+    check.malformed("a chunk where there is no state", x, 16);
   }
 
   private static void manyChunks(int order) {
@@ -86,33 +80,33 @@ public final class ChunksTest {
     for (int size : new int[] {0, -1, -2, 17, 18, Feed.ONE_CHUNKED, Feed.TAG, Integer.MAX_VALUE,
         Integer.MIN_VALUE}) {
       begin(x, order, "a").ints(size).number(5, 1).ints(0, 6, -1);
-      malformed("size " + size, x, 16);
+      check.malformed("size " + size, x, 16);
     }
     begin(x, order, "a");
-    malformed("no size", x, 16);
+    check.malformed("no size", x, 16);
     x.feed(0, 5);
-    malformed("a part of it", x, 16);
+    check.malformed("a part of it", x, 16);
     begin(x, order, "a").ints(1).number(5, 1).ints(0, 0, 0, -1);
-    malformed("a second size of 0, at a reference", x, 24);
+    check.malformed("a second size of 0, at a reference", x, 24);
     begin(x, order, "a").ints(8).number(5, 1).ints(0, 9, 0, -1);
-    malformed("a size up to behind the stream", x, 28);
+    check.malformed("a size up to behind the stream", x, 28);
     begin(x, order, "a").ints(8).number(5, 1).ints(0, 5, 0).number(9, 1);
-    malformed("a size up to the stream's end, and no more used", x, 36);
+    check.malformed("a size up to the stream's end, and no more used", x, 36);
   }
 
   private static void numbersInChunks(int order) {
     ValueStream x = types();
     for (int size = 2; size < 8; size++) {
       begin(x, order, "a").ints(size).number(5, 1).ints(0, 6, -1);
-      malformed("a value not all in the chunk", x, 24);
+      check.malformed("a value not all in the chunk", x, 24);
     }
     for (int size = 9; size < 12; size++) {
       begin(x, order, "a").ints(size).number(5, 1).ints(0, 6, -1);
-      malformed("an int not all in the chunk", x, 28);
+      check.malformed("an int not all in the chunk", x, 28);
     }
     for (int size = 9; size < 12; size++) {
       begin(x, order, "a").ints(size).number(5, 1).ints(-1, 4 - 28, 6, -1);
-      malformed("a way not all in the chunk", x, 28);
+      check.malformed("a way not all in the chunk", x, 28);
     }
     ValueStream y = new ValueStream();
     y.type(1, -1);
@@ -121,26 +115,26 @@ public final class ChunksTest {
     check.same("fill is in the chunk", y.read(), 0);
     check.same("and is not looked at", y.get(0, 0), -9);
     begin(y, order, "a").ints(8).number(-9, 8).ints(-1);
-    malformed("a size that leaves the fill out", y, 24);
+    check.malformed("a size that leaves the fill out", y, 24);
   }
 
   private static void ends(int order) {
     ValueStream x = types();
     for (int end : new int[] {0, -2, 1, Feed.ONE_CHUNKED, Integer.MIN_VALUE}) {
       begin(x, order, "a").ints(12).number(5, 1).ints(0, 6, end, 0, 0);
-      malformed("END " + end, x, 32);
+      check.malformed("END " + end, x, 32);
     }
     begin(x, order, "a").ints(12).number(5, 1).ints(0, 6);
-    malformed("no END", x, 32);
+    check.malformed("no END", x, 32);
     x.feed(-1, 3);
-    malformed("a part of it", x, 32);
+    check.malformed("a part of it", x, 32);
     begin(x, order, "a").ints(13).number(5, 1).ints(0, 6).number(7, 1).ints(-1);
-    malformed("a chunk that is open", x, 32);
+    check.malformed("a chunk that is open", x, 32);
     ValueStream y = new ValueStream();
     y.type(1, -1);
     y.field(0, 0);
     begin(y, order, "a").ints(3).number(5, 1).number(5, 1).number(5, 1).ints(-1);
-    malformed("at the place that was reached", y, 21);
+    check.malformed("at the place that was reached", y, 21);
     begin(y, order, "a").ints(1).number(5, 1).ints(-1);
     check.same("one byte", y.read(), 0);
   }
@@ -157,26 +151,26 @@ public final class ChunksTest {
     for (int low = 0; low < 256; low++) {
       begin(x, order, "a").ints(1).number(5, 1).ints(Feed.TAG + low, 0);
       boolean isTag = low == 10 || low == 14;
-      malformed("a tag in a chunked one, with " + low, x, isTag ? 28 : 24);
+      check.malformed("a tag in a chunked one, with " + low, x, isTag ? 28 : 24);
     }
     feed = begin(x, order, "a").ints(1).number(5, 1).ints(Feed.ONE_CHUNKED).name("c");
     feed.ints(-1).ints(4, 8, -1);
-    malformed("the inner END of another level", x, 36);
+    check.malformed("the inner END of another level", x, 36);
     begin(x, order, "a").ints(1).number(5, 1);
-    malformed("nothing where a value is due", x, 24);
+    check.malformed("nothing where a value is due", x, 24);
   }
 
   private static void valuesInChunks(int order) {
     ValueStream x = types();
     for (int v : new int[] {1, -2, Feed.TAG, Feed.ONE_CHUNKED, Integer.MAX_VALUE}) {
       begin(x, order, "a").ints(12).number(5, 1).ints(v, 6, -1);
-      malformed("a value in an open chunk: " + v, x, 24);
+      check.malformed("a value in an open chunk: " + v, x, 24);
       begin(x, order, "a").ints(1).number(5, 1).ints(8, v, 6, -1);
-      malformed("a value in a chunk of its own: " + v, x, 28);
+      check.malformed("a value in a chunk of its own: " + v, x, 28);
     }
     for (int v : new int[] {0, -1, -5, 13, Feed.TAG - 1}) {
       begin(x, order, "a").ints(1).number(5, 1).ints(v, 0, 6, -1);
-      malformed("a size that is none: " + v, x, 24);
+      check.malformed("a size that is none: " + v, x, 24);
     }
   }
 
@@ -184,13 +178,13 @@ public final class ChunksTest {
     ValueStream x = types();
     for (int to : new int[] {0, 8, 12, 16, 24, 28, 600, -4}) {
       begin(x, order, "a").ints(16).number(5, 1).back(to).ints(6, -1);
-      malformed("no tag at " + to, x, 28);
+      check.malformed("no tag at " + to, x, 28);
     }
     begin(x, order, "a").ints(16).number(5, 1).back(4).ints(6, -1);
     check.same("itself", x.read(), 0);
     check.same("its reference", x.get(0, 1), 0);
     begin(x, order, "a").ints(8).number(5, 1).ints(-1, 0, 0, -1);
-    malformed("the way's chunk is none", x, 28);
+    check.malformed("the way's chunk is none", x, 28);
   }
 
   /** Chunked values in values that are not: those do not count for the level. */
@@ -222,10 +216,10 @@ public final class ChunksTest {
     check.same("a base without state", x.read(), 2);
     check.same("is its type", x.get(2, -1), 2);
     feed = new Feed(x, order).ints(Feed.SEVERAL_CHUNKED, 2).name("z").name("y").ints(4, -1, -1);
-    malformed("no name is known", x, 12);
+    check.malformed("no name is known", x, 12);
     x.known(0, false);
     beginCut(x, order).ints(12).number(5, 1).ints(0, 6, -1);
-    malformed("no name is known any more", x, 12);
+    check.malformed("no name is known any more", x, 12);
   }
 
   private static void restOfAll(int order) {
@@ -243,7 +237,7 @@ public final class ChunksTest {
     // The same as the value of a reference: what is behind it is read on from there.
     feed = begin(x, order, "a").ints(1).number(1, 1);
     feed.ints(Feed.SEVERAL_CHUNKED, 2).name("z").back(8).ints(9).number(5, 1).ints(0).number(6, 1);
-    malformed("the state of the base is not all in its chunk", x, 60);
+    check.malformed("the state of the base is not all in its chunk", x, 60);
     feed = begin(x, order, "a").ints(1).number(1, 1);
     feed.ints(Feed.SEVERAL_CHUNKED, 2).name("z").back(8).ints(13).number(5, 1).ints(0, 6);
     feed.number(7, 1).ints(Feed.ONE_CHUNKED).name("z").ints(-3).ints(-2, 4, 11, -1);
@@ -257,16 +251,16 @@ public final class ChunksTest {
     ValueStream x = types();
     for (int v : new int[] {0, -2, -3, Integer.MIN_VALUE, 9, Feed.TAG - 1}) {
       beginCut(x, order).ints(12).number(5, 1).ints(0, 6, v, 0, -1);
-      malformed("an int of the rest: " + v, x, 44);
+      check.malformed("an int of the rest: " + v, x, 44);
     }
     beginCut(x, order).ints(12).number(5, 1).ints(0, 6, 8, 0, -1);
-    malformed("no END", x, 56);
+    check.malformed("no END", x, 56);
     beginCut(x, order).ints(12).number(5, 1).ints(0, 6);
-    malformed("no rest", x, 44);
+    check.malformed("no rest", x, 44);
     beginCut(x, order).ints(12).number(5, 1).ints(0, 6, 1).number(4, 1);
-    malformed("no END behind a chunk: at its place", x, 52);
+    check.malformed("no END behind a chunk: at its place", x, 52);
     beginCut(x, order).ints(13).number(5, 1).ints(0, 6).number(4, 1);
-    malformed("no END behind the rest of a chunk", x, 48);
+    check.malformed("no END behind the rest of a chunk", x, 48);
   }
 
   private static void passedValues(int order) {
@@ -274,16 +268,16 @@ public final class ChunksTest {
     for (int low = 0; low < 256; low++) {
       beginCut(x, order).ints(12).number(5, 1).ints(0, 6, Feed.TAG + low, 0);
       boolean isTag = low == 10 || low == 14;
-      malformed("a tag that is passed over, with " + low, x, isTag ? 48 : 44);
+      check.malformed("a tag that is passed over, with " + low, x, isTag ? 48 : 44);
     }
     Feed feed = beginCut(x, order).ints(12).number(5, 1).ints(0, 6, Feed.ONE_CHUNKED).name("c");
     feed.ints(-1, -1);
-    malformed("the END of another level", x, 56);
+    check.malformed("the END of another level", x, 56);
     feed = begin(x, order, "b").ints(1).number(5, 1);
     feed.ints(Feed.SEVERAL_CHUNKED, 2).name("z").name("c");
     feed.ints(Feed.ONE_CHUNKED).name("c").ints(-3, -2);
     feed.ints(12, 6).back(48).ints(-1);
-    malformed("what is passed over is no node", x, 80);
+    check.malformed("what is passed over is no node", x, 80);
     feed = begin(x, order, "b").ints(1).number(5, 1);
     feed.ints(Feed.SEVERAL_CHUNKED, 2).name("z").name("c");
     feed.ints(Feed.ONE_CHUNKED).name("c").ints(-3, -2);
@@ -297,13 +291,13 @@ public final class ChunksTest {
     for (int n : new int[] {0, 9, -1}) {
       Feed feed = beginCut(x, order).ints(12).number(5, 1).ints(0, 6, Feed.SEVERAL_CHUNKED, n);
       feed.name("c").ints(-2, -1);
-      malformed("n that is passed over: " + n, x, 48);
+      check.malformed("n that is passed over: " + n, x, 48);
     }
     Feed feed = beginCut(x, order).ints(12).number(5, 1).ints(0, 6, Feed.SEVERAL_CHUNKED, 2);
     feed.name("c").name("A").ints(-2, -1);
-    malformed("a name that is passed over", x, 60);
+    check.malformed("a name that is passed over", x, 60);
     feed = beginCut(x, order).ints(12).number(5, 1).ints(0, 6, Feed.ONE_CHUNKED).back(4);
-    malformed("a way that is passed over", x, 52);
+    check.malformed("a way that is passed over", x, 52);
     feed = begin(x, order, "b").ints(1).number(5, 1);
     feed.ints(Feed.SEVERAL_CHUNKED, 2).name("z").name("c");
     feed.ints(Feed.ONE_CHUNKED).name("y").ints(-3, -2);
@@ -321,7 +315,7 @@ public final class ChunksTest {
     Feed feed = beginCut(x, order).ints(12).number(5, 1).ints(0, 6);
     feed.ints(Feed.ONE_CHUNKED).name("c").ints(-2).ints(-1);
     check.same("no room is needed for what is passed over", x.read(), 23);
-    malformed("but for the node", x, 4);
+    check.malformed("but for the node", x, 4);
   }
 
   private static Feed cutChain(ValueStream x, int order, int depth, int cutFrom) {
@@ -358,9 +352,9 @@ public final class ChunksTest {
         check.same("no node is made", x.nodes(), 0);
       }
       cutChain(x, order, 12, cutFrom).ints(Feed.TAG - 1);
-      malformed("no tag, 13 deep", x, x.size() - 4);
+      check.malformed("no tag, 13 deep", x, x.size() - 4);
     }
     cutChain(x, order, 12, 13).ints(4, Feed.ONE_CHUNKED);
-    malformed("in a chunk it is no tag", x, x.size() - 4);
+    check.malformed("in a chunk it is no tag", x, x.size() - 4);
   }
 }

@@ -38,12 +38,6 @@ public final class ReadTest {
     return x;
   }
 
-  private static void malformed(String what, ValueStream x, int place) {
-    int nodes = x.nodes();
-    check.same(what + ": read()", x.read(), -2 - place);
-    check.same(what + ": nodes()", x.nodes(), nodes);
-  }
-
   private static void numbers(int order) {
     ValueStream x = types();
     Feed feed = new Feed(x, order).ints(Feed.ONE).name("ab").number(-7, 1).ints(0);
@@ -66,11 +60,11 @@ public final class ReadTest {
 
   private static void orders() {
     ValueStream x = types();
-    malformed("no bytes", x, 0);
+    check.malformed("no bytes", x, 0);
     for (int order : new int[] {2, 3, 128, 255}) {
       x.wipe();
       x.feed(order, 8);
-      malformed("order " + order, x, 0);
+      check.malformed("order " + order, x, 0);
     }
   }
 
@@ -78,7 +72,7 @@ public final class ReadTest {
     ValueStream x = types();
     new Feed(x, order);
     for (int size = 1; size < 8; size++) {
-      malformed("of " + size + " bytes", x, 4);
+      check.malformed("of " + size + " bytes", x, 4);
       x.feed(0, 1);
     }
     check.same("none", x.read(), -1);
@@ -87,15 +81,15 @@ public final class ReadTest {
     check.same("no node", x.nodes(), 0);
     for (int first : new int[] {1, 2, -2, 0x7FFFFEFF, Integer.MIN_VALUE, 0x7FFFFF}) {
       new Feed(x, order).ints(first, 0, 0);
-      malformed("first int " + first, x, 4);
+      check.malformed("first int " + first, x, 4);
     }
     new Feed(x, order).ints(-1);
-    malformed("-1 without a way", x, 8);
+    check.malformed("-1 without a way", x, 8);
     x.feed(0, 3);
-    malformed("-1 with a part of it", x, 8);
+    check.malformed("-1 with a part of it", x, 8);
     for (int back : new int[] {0, -4, -8, 4, Integer.MIN_VALUE, Integer.MAX_VALUE}) {
       new Feed(x, order).ints(-1, back, 0);
-      malformed("-1 and " + back, x, 8);
+      check.malformed("-1 and " + back, x, 8);
     }
   }
 
@@ -104,7 +98,7 @@ public final class ReadTest {
     for (int low = 0; low < 256; low++) {
       new Feed(x, order).ints(Feed.TAG + low, 0);
       boolean isTag = low == 2 || low == 6 || low == 10 || low == 14;
-      malformed("tag with " + low, x, isTag ? 8 : 4);
+      check.malformed("tag with " + low, x, isTag ? 8 : 4);
     }
   }
 
@@ -112,22 +106,25 @@ public final class ReadTest {
     ValueStream x = types();
     for (int length : new int[] {-2, 0, 1, 8, 256, Integer.MIN_VALUE, Integer.MAX_VALUE}) {
       new Feed(x, order).ints(Feed.ONE, length, 0x61616161, 0x61616161, 0, 0, 0);
-      malformed("L " + length, x, 8);
+      check.malformed("L " + length, x, 8);
     }
     for (int size = 4; size < 14; size++) {
       new Feed(x, order).ints(Feed.ONE);
       feedPart(x, order, size - 8);
-      malformed("a name up to " + x.size(), x, 8);
+      check.malformed("a name up to " + x.size(), x, 8);
     }
+    new Feed(x, order).ints(Feed.ONE).name("a").number(1, 1).ints(0);
+    new Feed(x, order).ints(Feed.ONE, 2).number('a', 1);
+    check.malformed("the end is in a stream that was", x, 8);
     for (int letter : new int[] {0, 'a' - 1, 'z' + 1, 'A', 1, 255}) {
       for (int place = 24; place < 30; place++) {
         nameWith(x, order, place, letter);
-        malformed("a letter " + letter, x, 20);
+        check.malformed("a letter " + letter, x, 20);
       }
     }
     for (int end : new int[] {1, 'a', 255}) {
       nameWith(x, order, 30, end);
-      malformed("an end " + end, x, 20);
+      check.malformed("an end " + end, x, 20);
     }
     nameWith(x, order, 29, 'a');
     check.same("letters and an end", x.read(), 0);
@@ -157,31 +154,31 @@ public final class ReadTest {
     for (int to : new int[] {0, 4, 7, 9, 12, 16, 20, 24, 28, 596, 600, -4, 1 << 30, -1 << 30}) {
       feed = new Feed(x, order).ints(Feed.ONE).name("a").number(1, 1);
       feed.ints(Feed.ONE).back(to).number(2, 1).ints(0);
-      malformed("no name at " + to, x, 24);
+      check.malformed("no name at " + to, x, 24);
     }
     new Feed(x, order).ints(Feed.ONE).back(8).ints(0, 0);
-    malformed("a name that is its own", x, 12);
+    check.malformed("a name that is its own", x, 12);
     new Feed(x, order).ints(Feed.ONE, -1);
-    malformed("a name that is no more", x, 12);
+    check.malformed("a name that is no more", x, 12);
     new Feed(x, order).ints(Feed.SEVERAL, 3).name("a").back(12).back(20).ints(0, 0);
-    malformed("the way to a way", x, 32);
+    check.malformed("the way to a way", x, 32);
     new Feed(x, order).ints(Feed.SEVERAL, 3).name("a").back(12).back(12).number(6, 1).ints(0);
     check.same("one name thrice", x.read(), 0);
     x.clear();
     new Feed(x, order).ints(Feed.ONE).name("a").number(1, 1).ints(0);
     check.same("another stream", x.read(), 0);
     new Feed(x, order).ints(Feed.ONE).back(8);
-    malformed("names of a stream that was", x, 12);
+    check.malformed("names of a stream that was", x, 12);
   }
 
   private static void nameCounts(int order) {
     ValueStream x = types();
     for (int n : new int[] {0, 9, -1, Integer.MIN_VALUE, Integer.MAX_VALUE}) {
       new Feed(x, order).ints(Feed.SEVERAL, n).name("a").number(1, 1).ints(0);
-      malformed("n " + n, x, 8);
+      check.malformed("n " + n, x, 8);
     }
     new Feed(x, order).ints(Feed.SEVERAL);
-    malformed("no n", x, 8);
+    check.malformed("no n", x, 8);
     for (int n = 1; n <= 8; n++) {
       x.clear();
       Feed feed = new Feed(x, order).ints(Feed.SEVERAL, n).name("a");
@@ -193,25 +190,25 @@ public final class ReadTest {
       check.same("n names: get(0, 0)", x.get(0, 0), n);
     }
     new Feed(x, order).ints(Feed.SEVERAL, 2).name("a").number(1, 1).ints(0);
-    malformed("the second name is none", x, 20);
+    check.malformed("the second name is none", x, 20);
   }
 
   private static void typesByNames(int order) {
     ValueStream x = types();
     new Feed(x, order).ints(Feed.ONE).name("b").number(1, 1).ints(0);
-    malformed("an unknown name", x, 8);
+    check.malformed("an unknown name", x, 8);
     new Feed(x, order).ints(Feed.SEVERAL, 2).name("b").name("a").number(1, 1).ints(0);
-    malformed("only the base is known, without chunks", x, 12);
+    check.malformed("only the base is known, without chunks", x, 12);
     Feed feed = new Feed(x, order).ints(Feed.SEVERAL, 2).name("a").name("b").number(1, 1);
     feed.ints(Feed.SEVERAL, 2).back(20).back(12).number(1, 1).ints(0);
-    malformed("likewise by ways back: at the -1", x, 36);
+    check.malformed("likewise by ways back: at the -1", x, 36);
     x.known(0, false);
     new Feed(x, order).ints(Feed.SEVERAL, 2).name("ab").name("a").number(1, 1).ints(0)
         .number(5, 2).number(6, 4).number(7, 8);
     check.same("its base need not be known", x.read(), 0);
     check.same("its own field", x.get(0, 4), 7);
     new Feed(x, order).ints(Feed.SEVERAL, 2).name("b").name("");
-    malformed("names are read before they are looked up", x, 20);
+    check.malformed("names are read before they are looked up", x, 20);
   }
 
   private static void numbersOutside(int order) {
@@ -229,7 +226,7 @@ public final class ReadTest {
     for (int size = 0; size < bytes.length; size++) {
       if (size >= 15) {
         field += size == places[field][1] ? 1 : 0;
-        malformed("of " + size + " bytes", x, places[field][0]);
+        check.malformed("of " + size + " bytes", x, places[field][0]);
       }
       x.feed(bytes[size], 1);
     }
@@ -245,13 +242,13 @@ public final class ReadTest {
     check.same("its own, not the first one", x.get(1, 1), 1);
     for (int to : new int[] {0, 8, 12, 16, 20, 24, 5, 600, -4, 1 << 30, -1 << 30}) {
       new Feed(x, order).ints(Feed.ONE).name("a").number(1, 1).back(to).ints(0, 0);
-      malformed("no tag at " + to, x, 20);
+      check.malformed("no tag at " + to, x, 20);
     }
     new Feed(x, order).ints(Feed.ONE).name("a").number(1, 1).ints(-1);
-    malformed("no way back", x, 20);
+    check.malformed("no way back", x, 20);
     for (int other : new int[] {1, -2, 0x7FFFFEFF, 0x7FFFFF01, 0x7FFFFFFF}) {
       new Feed(x, order).ints(Feed.ONE).name("a").number(1, 1).ints(other, 0, 0);
-      malformed("no value " + other, x, 16);
+      check.malformed("no value " + other, x, 16);
     }
   }
 
@@ -281,10 +278,10 @@ public final class ReadTest {
     }
     chain(x, order, 12).ints(Feed.TAG - 1);
     int place = x.size() - 4;
-    malformed("no tag, 13 deep", x, place);
+    check.malformed("no tag, 13 deep", x, place);
     chain(x, order, 12);
     x.feed(0, 3);
-    malformed("no int, 13 deep", x, place);
+    check.malformed("no int, 13 deep", x, place);
   }
 
   private static void room() {
@@ -293,12 +290,12 @@ public final class ReadTest {
       x.node(0);
     }
     chain(x, 0, 2).ints(0);
-    malformed("room for one, and two come", x, 16);
+    check.malformed("room for one, and two come", x, 16);
     chain(x, 0, 1).ints(0);
     check.same("room for one, and one comes", x.read(), 23);
-    malformed("no room", x, 4);
+    check.malformed("no room", x, 4);
     new Feed(x, 0).ints(Feed.ONE, 0);
-    malformed("no room, before names are read", x, 4);
+    check.malformed("no room, before names are read", x, 4);
     new Feed(x, 0).ints(0);
     check.same("none needs no room", x.read(), -1);
     check.same("nodes()", x.nodes(), 24);
@@ -307,7 +304,7 @@ public final class ReadTest {
       x.node(0);
     }
     chain(x, 0, 12).ints(Feed.ONE);
-    malformed("no room for the 12th", x, 16 + 10 * 16);
+    check.malformed("no room for the 12th", x, 16 + 10 * 16);
     x.clear();
     for (int i = 0; i < 12; i++) {
       x.node(0);
@@ -327,7 +324,7 @@ public final class ReadTest {
     check.same("the outer one's", x.get(1, 1), 2);
     check.same("the inner one's", x.get(2, 1), 2);
     chain(x, 1, 2).back(0);
-    malformed("then no node is made", x, 36);
+    check.malformed("then no node is made", x, 36);
     check.same("the next one", x.node(0), 3);
     check.same("is new", x.get(3, 0), 0);
     check.same("and refers to none", x.get(3, 1), -1);

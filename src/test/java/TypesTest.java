@@ -45,7 +45,7 @@ public final class TypesTest {
     ValueStream x = new ValueStream();
     x.type(1, -1);
     int[] noNames = {0, 27, 31, 32, 33 << 5, 1 << 10 | 1, 27 << 5 | 1, -1, Integer.MIN_VALUE,
-        Integer.MAX_VALUE, 1 << 25, 1 << 30, 1 << 25 | 1};
+        Integer.MAX_VALUE, 1 << 25, 1 << 30, 1 << 25 | 1, Feed.letters("aaaaa") | 27 << 25};
     for (int name : noNames) {
       check.fails("type(" + name + ", -1)", ARGUMENT, () -> x.type(name, -1));
     }

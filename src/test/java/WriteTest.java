@@ -16,6 +16,7 @@ public final class WriteTest {
       chunksRoundValues(order);
       withoutNumbers(order);
       shared(order);
+      eightNames(order);
     }
     wrongArguments();
     depth();
@@ -151,6 +152,20 @@ public final class WriteTest {
     feed.ints(Feed.ONE).back(8).ints(0, 0, 0).back(24);
     check.same("write", x.write(1, order, false, false), due.size());
     same("shared " + order, x, due);
+  }
+
+  private static void eightNames(int order) {
+    ValueStream x = new ValueStream();
+    ValueStream due = new ValueStream();
+    Feed feed = new Feed(due, order).ints(Feed.SEVERAL, 8);
+    for (int i = 0; i < 8; i++) {
+      x.type(i + 1, i - 1);
+      feed.name(String.valueOf((char) ('h' - i)));
+    }
+    x.node(7);
+    check.same("write", x.write(0, order, false, true), due.size());
+    same("eight names " + order, x, due);
+    check.same("read()", x.read(), 1);
   }
 
   private static void wrongArguments() {
