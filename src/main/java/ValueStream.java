@@ -405,22 +405,24 @@ public final class ValueStream {
     }
 
     void changeNumber(int place, long value, int width) {
+      boolean lowestFirst = bytes[0] == LOWEST_FIRST;
+      int lowest = lowestFirst ? place : place + width - 1;
+      int step = lowestFirst ? 1 : -1;
       for (int i = 0; i < width; i++) {
-        bytes[placeOfByte(place, i, width)] = (byte) (value >> 8 * i);
+        bytes[lowest + step * i] = (byte) (value >> 8 * i);
       }
     }
 
     long number(int place, int width) {
-      long value = 0;
-      for (int i = 0; i < width; i++) {
-        value |= (bytes[placeOfByte(place, i, width)] & 255L) << 8 * i;
+      boolean lowestFirst = bytes[0] == LOWEST_FIRST;
+      int highest = lowestFirst ? place + width - 1 : place;
+      int step = lowestFirst ? -1 : 1;
+      // The highest byte brings the sign.
+      long value = bytes[highest];
+      for (int i = 1; i < width; i++) {
+        value = value << 8 | bytes[highest + step * i] & 255;
       }
-      return withSign(value, width);
-    }
-
-    /** Byte 0 of a number is its lowest. */
-    private int placeOfByte(int place, int i, int width) {
-      return bytes[0] == LOWEST_FIRST ? place + i : place + width - 1 - i;
+      return value;
     }
   }
 
@@ -649,7 +651,7 @@ public final class ValueStream {
       if (depth > MOST_DEPTH) {
         throw new UnsupportedOperationException("values too deep in one another");
       }
-      int tag = takeInt();
+      int tag = (int) takeNumber(INT);
       need(namesIn(tag) == ONE_NAME || namesIn(tag) == SEVERAL_NAMES, place - INT);
       need(isChunked(tag) || level == 0, place - INT);
       return tag;
@@ -659,7 +661,7 @@ public final class ValueStream {
       if (namesIn(tag) == ONE_NAME) {
         return 1;
       }
-      int count = takeInt();
+      int count = (int) takeNumber(INT);
       need(count >= 1 && count <= MOST_NAMES, place - INT);
       return count;
     }
@@ -680,9 +682,9 @@ public final class ValueStream {
     }
 
     private int takeName() {
-      int length = takeInt();
+      int length = (int) takeNumber(INT);
       if (length == BACK) {
-        int back = takeInt();
+        int back = (int) takeNumber(INT);
         return nameAt(place - INT + back);
       }
       int lengthPlace = place - INT;
@@ -720,7 +722,7 @@ public final class ValueStream {
 
     private void takeEnd(int level) {
       need(chunkEnd == NOWHERE, place);
-      int end = takeInt();
+      int end = (int) takeNumber(INT);
       need(end == -level, place - INT);
     }
 
@@ -734,7 +736,7 @@ public final class ValueStream {
         if (next >= TAGS) {
           passValue(depth + 1, level);
         } else if (next == -level) {
-          takeInt();
+          takeNumber(INT);
           return;
         } else {
           int size = takeSize();
@@ -767,18 +769,14 @@ public final class ValueStream {
     }
 
     private int takeSize() {
-      int size = takeInt();
+      int size = (int) takeNumber(INT);
       need(size >= 1 && stream.holds(place, size), place - INT);
       return size;
     }
 
-    private int takeInt() {
-      return (int) takeNumber(INT);
-    }
-
     private int nextInt() {
       int before = place;
-      int next = takeInt();
+      int next = (int) takeNumber(INT);
       place = before;
       return next;
     }
