@@ -1,6 +1,7 @@
 /** Counts the answers of one test that are as due and prints the others. */
 final class Check {
   private final String test;
+  private String sentence = "";
   private int passed;
   private int failed;
 
@@ -8,12 +9,18 @@ final class Check {
     this.test = test;
   }
 
+  /** The sentence of the document that the answers from here on are about. */
+  void about(String quoted) {
+    sentence = " \"" + quoted + "\":";
+  }
+
   void same(String what, long got, long due) {
     if (got == due) {
       passed++;
     } else {
       failed++;
-      System.out.println(test + ": " + what + " answered " + got + ", due is " + due);
+      System.out.println(test + ":" + sentence + " " + what + " answered " + got
+          + ", due is " + due);
     }
   }
 
@@ -32,6 +39,14 @@ final class Check {
       System.out.println(test + ": " + what + " threw " + got + ", due is " + due.getName());
     }
     same(what + " throws", got.equals(due.getName()) ? 1 : 0, 1);
+  }
+
+  /** Both hold the same bytes. */
+  void sameStream(String what, ValueStream got, ValueStream due) {
+    same(what + ": size()", got.size(), due.size());
+    for (int i = 0; i < due.size(); i++) {
+      same(what + ": at(" + i + ")", got.at(i), due.at(i));
+    }
   }
 
   /** The stream is malformed at a place, and reading it makes no node. */

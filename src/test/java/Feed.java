@@ -16,6 +16,16 @@ final class Feed {
     x.feed(order, 1);
   }
 
+  /** Feeds on behind what is there. */
+  static Feed on(ValueStream x, int order) {
+    return new Feed(order, x);
+  }
+
+  private Feed(int order, ValueStream x) {
+    this.x = x;
+    this.order = order;
+  }
+
   /** The letters of a name, five bits each. */
   static int letters(String name) {
     int letters = 0;
@@ -23,6 +33,10 @@ final class Feed {
       letters = letters << 5 | c - 'a' + 1;
     }
     return letters;
+  }
+
+  ValueStream stream() {
+    return x;
   }
 
   Feed number(long value, int width) {

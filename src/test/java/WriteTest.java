@@ -24,13 +24,6 @@ public final class WriteTest {
     check.end();
   }
 
-  private static void same(String what, ValueStream got, ValueStream due) {
-    check.same(what + ": size()", got.size(), due.size());
-    for (int i = 0; i < due.size(); i++) {
-      check.same(what + ": at(" + i + ")", got.at(i), due.at(i));
-    }
-  }
-
   /** A type ab with a byte, two, four and eight bytes, and cd on it with a byte and a reference. */
   private static ValueStream graph() {
     ValueStream x = new ValueStream();
@@ -61,7 +54,7 @@ public final class WriteTest {
     Feed feed = new Feed(due, order).ints(Feed.ONE).name("cdefgh");
     state(feed).ints(0);
     check.same("write", x.write(0, order, false, false), due.size());
-    same("plain " + order, x, due);
+    check.sameStream("plain " + order, x, due);
   }
 
   private static void plainSeveral(int order) {
@@ -75,7 +68,7 @@ public final class WriteTest {
     state(feed).ints(Feed.SEVERAL, 1).back(24);
     feed.number(0, 1).number(0, 2).number(0, 4).number(0, 8);
     check.same("write", x.write(0, order, false, true), due.size());
-    same("several " + order, x, due);
+    check.sameStream("several " + order, x, due);
     check.same("size()", x.size(), due.size());
   }
 
@@ -85,7 +78,7 @@ public final class WriteTest {
     Feed feed = new Feed(due, order).ints(Feed.ONE_CHUNKED).name("cdefgh").ints(24);
     state(feed).ints(0, -1);
     check.same("write", x.write(0, order, true, false), due.size());
-    same("chunked " + order, x, due);
+    check.sameStream("chunked " + order, x, due);
   }
 
   /** The chunks end before the fill of the tag and of the END, and begin behind the inner END. */
@@ -112,7 +105,7 @@ public final class WriteTest {
     feed.ints(-2);
     feed.ints(due.size() % 8 == 0 ? 13 : 9).number(2, 8).number(3, 1).ints(-1);
     check.same("write", x.write(0, order, true, false), due.size());
-    same("chunks round values " + order, x, due);
+    check.sameStream("chunks round values " + order, x, due);
   }
 
   private static void withoutNumbers(int order) {
@@ -132,7 +125,7 @@ public final class WriteTest {
     feed.ints(Feed.SEVERAL_CHUNKED, 1).back(28).ints(-2);
     feed.ints(Feed.SEVERAL_CHUNKED, 2).back(20).back(28).ints(-2, -1);
     check.same("write", x.write(0, order, true, true), due.size());
-    same("without numbers " + order, x, due);
+    check.sameStream("without numbers " + order, x, due);
   }
 
   /** A node that was written and is closed already, twice, and one that is being written. */
@@ -151,7 +144,7 @@ public final class WriteTest {
     Feed feed = new Feed(due, order).ints(Feed.ONE).name("a").back(4);
     feed.ints(Feed.ONE).back(8).ints(0, 0, 0).back(24);
     check.same("write", x.write(1, order, false, false), due.size());
-    same("shared " + order, x, due);
+    check.sameStream("shared " + order, x, due);
   }
 
   private static void eightNames(int order) {
@@ -164,7 +157,7 @@ public final class WriteTest {
     }
     x.node(7);
     check.same("write", x.write(0, order, false, true), due.size());
-    same("eight names " + order, x, due);
+    check.sameStream("eight names " + order, x, due);
     check.same("read()", x.read(), 1);
   }
 
