@@ -149,9 +149,10 @@ public final class ChunksTest {
     check.same("behind it", x.get(0, 2), 8);
     check.same("the inner one's", x.get(1, 2), 7);
     for (int low = 0; low < 256; low++) {
-      begin(x, order, "a").ints(1).number(5, 1).ints(Feed.TAG + low, 0);
+      ValueStream y = types();
+      begin(y, order, "a").ints(1).number(5, 1).ints(Feed.TAG + low, 0);
       boolean isTag = low == 10 || low == 14;
-      check.malformed("a tag in a chunked one, with " + low, x, isTag ? 28 : 24);
+      check.malformed("a tag in a chunked one, with " + low, y, isTag ? 28 : 24);
     }
     feed = begin(x, order, "a").ints(1).number(5, 1).ints(Feed.ONE_CHUNKED).name("c");
     feed.ints(-1).ints(4, 8, -1);
@@ -264,12 +265,13 @@ public final class ChunksTest {
   }
 
   private static void passedValues(int order) {
-    ValueStream x = types();
     for (int low = 0; low < 256; low++) {
-      beginCut(x, order).ints(12).number(5, 1).ints(0, 6, Feed.TAG + low, 0);
+      ValueStream y = types();
+      beginCut(y, order).ints(12).number(5, 1).ints(0, 6, Feed.TAG + low, 0);
       boolean isTag = low == 10 || low == 14;
-      check.malformed("a tag that is passed over, with " + low, x, isTag ? 48 : 44);
+      check.malformed("a tag that is passed over, with " + low, y, isTag ? 48 : 44);
     }
+    ValueStream x = types();
     Feed feed = beginCut(x, order).ints(12).number(5, 1).ints(0, 6, Feed.ONE_CHUNKED).name("c");
     feed.ints(-1, -1);
     check.malformed("the END of another level", x, 56);
@@ -331,29 +333,34 @@ public final class ChunksTest {
     return feed;
   }
 
-  private static void depth(int order) {
+  private static ValueStream typesForDepth() {
     ValueStream x = types();
     x.type(Feed.letters("d"), -1);
     x.field(3, 2);
     x.field(3, 4);
+    return x;
+  }
+
+  private static void depth(int order) {
     for (int cutFrom : new int[] {2, 7, 11, 12, 13}) {
+      ValueStream x = typesForDepth();
       Feed feed = cutChain(x, order, 12, cutFrom);
       feed.ints(cutFrom == 13 ? 4 : 1).ints(0);
       for (int level = 12; level > 0; level--) {
         feed.ints(-level);
       }
-      x.clear();
       check.same("12 deep, cut from " + cutFrom, x.read(), 0);
       check.same("nodes()", x.nodes(), cutFrom == 13 ? 12 : cutFrom);
+      x.clear();
       for (int low : new int[] {0, 10, 255}) {
         cutChain(x, order, 12, cutFrom).ints(Feed.TAG + low);
-        x.clear();
         check.fails("13 deep, cut from " + cutFrom, TOO_DEEP, () -> x.read());
         check.same("no node is made", x.nodes(), 0);
       }
       cutChain(x, order, 12, cutFrom).ints(Feed.TAG - 1);
       check.malformed("no tag, 13 deep", x, x.size() - 4);
     }
+    ValueStream x = typesForDepth();
     cutChain(x, order, 12, 13).ints(4, Feed.ONE_CHUNKED);
     check.malformed("in a chunk it is no tag", x, x.size() - 4);
   }

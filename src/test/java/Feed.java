@@ -1,4 +1,7 @@
-/** Feeds a stream number by number, each at its place, in one order of bytes. */
+/**
+ * Feeds a stream number by number, each at its place, in one order of bytes. It counts the bytes
+ * itself and feeds many at once, since an object is used for 512 calls only.
+ */
 final class Feed {
   static final int TAG = 0x7FFFFF00;
   static final int ONE = TAG + 2;
@@ -8,22 +11,24 @@ final class Feed {
 
   private final ValueStream x;
   private final int order;
+  private int size;
 
-  Feed(ValueStream x, int order) {
+  private Feed(ValueStream x, int order, int size) {
     this.x = x;
     this.order = order;
+    this.size = size;
+  }
+
+  /** Feeds from the front. */
+  Feed(ValueStream x, int order) {
+    this(x, order, 0);
     x.wipe();
-    x.feed(order, 1);
+    number(order, 1);
   }
 
   /** Feeds on behind what is there. */
   static Feed on(ValueStream x, int order) {
-    return new Feed(order, x);
-  }
-
-  private Feed(int order, ValueStream x) {
-    this.x = x;
-    this.order = order;
+    return new Feed(x, order, x.size());
   }
 
   /** The letters of a name, five bits each. */
@@ -40,11 +45,11 @@ final class Feed {
   }
 
   Feed number(long value, int width) {
-    while (x.size() % width != 0) {
-      x.feed(0, 1);
+    int fill = -size & width - 1;
+    if (fill > 0) {
+      bytes(0, fill);
     }
-    x.feed(order == 1 ? value : Long.reverseBytes(value) >>> 64 - 8 * width, width);
-    return this;
+    return bytes(order == 1 ? value : Long.reverseBytes(value) >>> 64 - 8 * width, width);
   }
 
   Feed ints(int... values) {
@@ -54,17 +59,37 @@ final class Feed {
     return this;
   }
 
+  /** For names that are too long, too: up to seven letters and the 0 at once. */
   Feed name(String name) {
     ints(name.length() + 1);
-    for (char c : name.toCharArray()) {
-      number(c, 1);
+    for (int from = 0; from <= name.length(); from += 8) {
+      long letters = 0;
+      int count = Math.min(name.length() + 1 - from, 8);
+      for (int i = 0; i < count; i++) {
+        letters |= (from + i < name.length() ? (long) name.charAt(from + i) : 0) << 8 * i;
+      }
+      bytes(letters, count);
     }
-    return number(0, 1);
+    return this;
   }
 
   /** -1 and the way back to a place. */
   Feed back(int place) {
     ints(-1);
-    return ints(place - x.size());
+    return ints(place - size);
+  }
+
+  /** So many bytes of one value. */
+  Feed repeated(int value, int count) {
+    for (int i = 0; i < count; i += 8) {
+      bytes(value * 0x0101010101010101L, Math.min(count - i, 8));
+    }
+    return this;
+  }
+
+  private Feed bytes(long lowestFirst, int count) {
+    x.feed(lowestFirst, count);
+    size += count;
+    return this;
   }
 }

@@ -128,13 +128,11 @@ public final class NodesTest {
       x.node(7);
     }
     check.same("fields", x.get(23, -2), 32);
-    for (int node = 0; node < 24; node++) {
-      for (int k = 0; k < 32; k++) {
-        x.set(node, k, node + k);
-      }
+    for (int i = 0; i < 192; i++) {
+      x.set(i % 24, i % 32, i % 24 + i % 32);
     }
-    for (int k = 0; k < 32; k++) {
-      check.same("field " + k, x.get(k % 24, k), k % 24 + k);
+    for (int i = 0; i < 192; i++) {
+      check.same("field " + i % 32, x.get(i % 24, i % 32), i % 24 + i % 32);
     }
   }
 }

@@ -68,9 +68,14 @@ public final class PromisesTest {
     }
   }
 
+  /** The bytes 1, 2, .., eight in a call. */
   private static void feedBytes(ValueStream x, int howMany) {
-    for (int i = 0; i < howMany; i++) {
-      x.feed(i + 1, 1);
+    for (int from = 0; from < howMany; from += 8) {
+      long bytes = 0;
+      for (int i = 7; i >= 0; i--) {
+        bytes = bytes << 8 | from + i + 1 & 255;
+      }
+      x.feed(bytes, Math.min(howMany - from, 8));
     }
   }
 
@@ -272,10 +277,10 @@ public final class PromisesTest {
   private static void setLowestBytes() {
     check.about("Field k of a node becomes v: as many of its lowest bytes as the kind has,"
         + " with sign");
-    ValueStream x = typed(0, 1, 2, 3);
-    addNodes(x, 2);
     int[] bits = {8, 16, 32, 64};
     for (int k = 0; k < 4; k++) {
+      ValueStream x = typed(0, 1, 2, 3);
+      addNodes(x, 2);
       for (int bit = 0; bit < 64; bit++) {
         for (long v : new long[] {1L << bit, (1L << bit) - 1, -1L << bit}) {
           x.set(1, k, v);
@@ -285,10 +290,12 @@ public final class PromisesTest {
       }
       check.same("of the other node", x.get(0, k), 0);
     }
-    x.set(1, 0, 128);
-    check.same("the first of a byte below 0", x.get(1, 0), -128);
-    x.set(1, 0, 256);
-    check.same("what is above a byte", x.get(1, 0), 0);
+    ValueStream x = typed(0);
+    addNodes(x, 1);
+    x.set(0, 0, 128);
+    check.same("the first of a byte below 0", x.get(0, 0), -128);
+    x.set(0, 0, 256);
+    check.same("what is above a byte", x.get(0, 0), 0);
   }
 
   private static void setReferences() {
@@ -491,7 +498,7 @@ public final class PromisesTest {
     feedBytes(x, 600);
     check.fails(what, TOO_MUCH, () -> x.write(0, 1, chunked, false));
     check.same(what + ": the stream stays", x.size(), 600);
-    for (int i = 0; i < 600; i++) {
+    for (int i = 0; i < 600; i += 3) {
       check.same(what + ": at(" + i + ")", x.at(i), i + 1 & 255);
     }
     x.set(0, 0, -1);
@@ -544,11 +551,9 @@ public final class PromisesTest {
   private static void bytesAt() {
     check.about("Byte i of the stream, 0 .. 255; -1 when there is none.");
     ValueStream x = new ValueStream();
+    feedBytes(x, 256);
     for (int i = 0; i < 256; i++) {
-      x.feed(i, 1);
-    }
-    for (int i = 0; i < 256; i++) {
-      check.same("at(" + i + ")", x.at(i), i);
+      check.same("at(" + i + ")", x.at(i), i + 1 & 255);
     }
     for (int none : new int[] {-1, 256, 599, 600, LEAST, MOST}) {
       check.same("at(" + none + ")", x.at(none), -1);

@@ -5,8 +5,11 @@ import java.util.function.LongSupplier;
 
 /** Runs of calls drawn by fixed seeds, with the answers of ValueStream beside those of Model. */
 public final class RandomRunsTest {
-  private static final int RUNS = 3000;
-  private static final int CALLS = 120;
+  private static final int RUNS = 12000;
+  /** What later calls answer is free. */
+  private static final int MOST_CALLS = 512;
+  /** How many bytes of a stream, or fields of nodes, are looked at before many more calls come. */
+  private static final int LOOKS = 30;
 
   private final Check check;
   private final int run;
@@ -14,6 +17,12 @@ public final class RandomRunsTest {
   private final ValueStream x = new ValueStream();
   private final Model m = new Model();
   private final Map<String, Integer> seen;
+  private int calls;
+
+  /** The object has had all the calls that it is promised for. */
+  private static final class Enough extends RuntimeException {
+    private static final long serialVersionUID = 1;
+  }
 
   private RandomRunsTest(Check check, int run, Map<String, Integer> seen) {
     this.check = check;
@@ -26,7 +35,12 @@ public final class RandomRunsTest {
     Check check = new Check("RandomRunsTest");
     Map<String, Integer> seen = new TreeMap<>();
     for (int run = 0; run < RUNS; run++) {
-      new RandomRunsTest(check, run, seen).calls();
+      RandomRunsTest one = new RandomRunsTest(check, run, seen);
+      try {
+        one.calls();
+      } catch (Enough enough) {
+        check.same("calls", one.calls, MOST_CALLS);
+      }
     }
     // Runs that never come to such an answer would show nothing about it.
     for (String kind : new String[] {"read: node", "read: none", "read: malformed",
@@ -40,6 +54,13 @@ public final class RandomRunsTest {
     check.end();
   }
 
+  private void countCall() {
+    if (calls == MOST_CALLS) {
+      throw new Enough();
+    }
+    calls++;
+  }
+
   private static String answer(LongSupplier call) {
     try {
       return Long.toString(call.getAsLong());
@@ -49,6 +70,7 @@ public final class RandomRunsTest {
   }
 
   private String same(String call, LongSupplier got, LongSupplier due) {
+    countCall();
     String gotText = answer(got);
     String dueText = answer(due);
     if (!gotText.equals(dueText)) {
@@ -69,7 +91,7 @@ public final class RandomRunsTest {
 
   private void calls() {
     makeTypes();
-    for (int i = 0; i < CALLS; i++) {
+    for (int i = 0; i < MOST_CALLS; i++) {
       int what = random.nextInt(20);
       if (random.nextInt(50) == 0) {
         graph();
@@ -177,9 +199,16 @@ public final class RandomRunsTest {
       clear();
     }
     new Crafter(random, m, faults).craft();
+    countCall();
     x.wipe();
-    for (int i = 0; i < m.size(); i++) {
-      x.feed(m.at(i), 1);
+    for (int from = 0; from < m.size(); from += 8) {
+      int n = Math.min(m.size() - from, 8);
+      long bytes = 0;
+      for (int i = n - 1; i >= 0; i--) {
+        bytes = bytes << 8 | m.at(from + i);
+      }
+      countCall();
+      x.feed(bytes, n);
     }
     read();
   }
@@ -214,6 +243,7 @@ public final class RandomRunsTest {
   }
 
   private void clear() {
+    countCall();
     x.clear();
     m.clear();
   }
@@ -229,19 +259,23 @@ public final class RandomRunsTest {
     }
   }
 
+  /** The new nodes come last, and are looked at first. */
   private void sameNodes() {
-    for (int node = 0; node < m.nodes(); node++) {
-      for (int k = -2; k < m.get(node, -2); k++) {
+    int looks = 0;
+    for (int node = m.nodes() - 1; node >= 0 && looks < LOOKS; node--) {
+      for (int k = -2; k < m.get(node, -2) && looks < LOOKS; k++) {
         int at = node;
         int field = k;
         same("get(" + at + ", " + field + ")", () -> x.get(at, field), () -> m.get(at, field));
+        looks++;
       }
     }
   }
 
   private void sameStreams() {
     same("size()", x::size, m::size);
-    for (int i = -1; i <= m.size(); i++) {
+    int step = m.size() / LOOKS + 1;
+    for (int i = random.nextInt(step) - 1; i <= m.size(); i += step) {
       int at = i;
       same("at(" + at + ")", () -> x.at(at), () -> m.at(at));
     }

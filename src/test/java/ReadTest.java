@@ -94,8 +94,8 @@ public final class ReadTest {
   }
 
   private static void tags(int order) {
-    ValueStream x = types();
     for (int low = 0; low < 256; low++) {
+      ValueStream x = types();
       new Feed(x, order).ints(Feed.TAG + low, 0);
       boolean isTag = low == 2 || low == 6 || low == 10 || low == 14;
       check.malformed("tag with " + low, x, isTag ? 8 : 4);
@@ -117,9 +117,10 @@ public final class ReadTest {
     new Feed(x, order).ints(Feed.ONE, 2).number('a', 1);
     check.malformed("the end is in a stream that was", x, 8);
     for (int letter : new int[] {0, 'a' - 1, 'z' + 1, 'A', 1, 255}) {
+      ValueStream y = types();
       for (int place = 24; place < 30; place++) {
-        nameWith(x, order, place, letter);
-        check.malformed("a letter " + letter, x, 20);
+        nameWith(y, order, place, letter);
+        check.malformed("a letter " + letter, y, 20);
       }
     }
     for (int end : new int[] {1, 'a', 255}) {

@@ -118,13 +118,11 @@ public final class ReadingTest {
       check.malformed("size " + size, x, 16);
     }
     for (int bytes = 0; bytes < 12; bytes++) {
+      ValueStream y = typed("a", 0);
       for (int size = 1; size < 14; size++) {
-        chunked(x, "a").ints(size);
-        for (int i = 0; i < bytes; i++) {
-          x.feed(5, 1);
-        }
+        chunked(y, "a").ints(size).repeated(5, bytes);
         int open = size == 1 ? 24 : 21;
-        check.malformed("size " + size + " of " + bytes, x, size > bytes ? 16 : open);
+        check.malformed("size " + size + " of " + bytes, y, size > bytes ? 16 : open);
       }
     }
     chunked(x, "a").ints(1).number(5, 1).ints(-1);
@@ -138,11 +136,7 @@ public final class ReadingTest {
       int place = width == 8 ? 24 : 20;
       for (int size = 1; size <= 16; size++) {
         ValueStream x = typed("a", kind);
-        chunked(x, "a").ints(size);
-        while (x.size() < 20 + size) {
-          x.feed(0, 1);
-        }
-        Feed.on(x, order).ints(-1);
+        chunked(x, "a").ints(size).repeated(0, size).ints(-1);
         String what = "kind " + kind + " in " + size;
         if (20 + size < place + width) {
           check.malformed(what, x, place);
@@ -233,8 +227,8 @@ public final class ReadingTest {
 
   private static void tags() {
     check.about("A tag must be one of four (of two, with 8, in a chunked one)");
-    ValueStream x = typed("a", 4);
     for (int low = 0; low < 256; low++) {
+      ValueStream x = typed("a", 4);
       boolean isOne = low == 2 || low == 6 || low == 10 || low == 14;
       boolean isChunked = low == 10 || low == 14;
       begin(x).ints(Feed.TAG + low, 0);
@@ -310,18 +304,17 @@ public final class ReadingTest {
     check.about("and all its letters and the 0 there: otherwise at L.");
     for (int count = 1; count <= 6; count++) {
       ValueStream x = typed("abcdef".substring(0, count));
-      for (int there = 0; there <= count; there++) {
-        begin(x).ints(Feed.ONE, count + 1);
-        for (int i = 0; i < there; i++) {
-          x.feed('a' + i, 1);
-        }
-        check.malformed(there + " bytes of " + count + " letters and a 0", x, 8);
+      begin(x).ints(Feed.ONE, count + 1);
+      for (int i = 0; i < count; i++) {
+        check.malformed(i + " of " + count + " letters", x, 8);
+        x.feed('a' + i, 1);
       }
+      check.malformed("no 0", x, 8);
       x.feed(0, 1);
       fine("all of them", x);
-      for (int v = 1; v < 256; v++) {
-        x.spoil(12 + count, v);
-        check.malformed("for the 0 there is " + v, x, 8);
+      for (int bit = 0; bit < 8; bit++) {
+        x.spoil(12 + count, 1 << bit);
+        check.malformed("no 0 but " + (1 << bit), x, 8);
       }
     }
     noLetters();
@@ -329,9 +322,9 @@ public final class ReadingTest {
 
   /** The name is behind a known one, so that only its form counts. */
   private static void noLetters() {
-    ValueStream x = typed("a");
     for (int place = 24; place < 30; place++) {
       for (int v = 0; v < 256; v++) {
+        ValueStream x = typed("a");
         begin(x).ints(Feed.SEVERAL, 2).name("a").name("mmmmmm");
         x.spoil(place, v);
         if (v >= 'a' && v <= 'z') {
@@ -345,15 +338,16 @@ public final class ReadingTest {
 
   private static void waysToNames() {
     check.about("For -1, the place that d tells must be that of an L that was read before");
-    ValueStream x = typed("a", 4);
     for (int to = -4; to < 44; to++) {
-      plain(x, "a").ints(Feed.ONE).back(to).ints(0);
+      ValueStream y = typed("a", 4);
+      plain(y, "a").ints(Feed.ONE).back(to).ints(0);
       if (to == 8) {
-        fine("the name", x);
+        fine("the name", y);
       } else {
-        check.malformed("no name at " + to, x, 24);
+        check.malformed("no name at " + to, y, 24);
       }
     }
+    ValueStream x = typed("a", 4);
     for (int d : new int[] {LEAST, MOST, LEAST + 600, MOST - 23, -600, 600, 576}) {
       plain(x, "a").ints(Feed.ONE, -1, d, 0);
       check.malformed("d " + d, x, 24);
@@ -370,21 +364,22 @@ public final class ReadingTest {
 
   private static void waysToValues() {
     check.about("(of a tag of a value that is a node, for values): otherwise at d.");
-    ValueStream x = typed("a", 4, 4);
     for (int to = -4; to < 44; to++) {
-      plain(x, "a").ints(Feed.ONE).back(8).ints(0, 0).back(to);
+      ValueStream y = typed("a", 4, 4);
+      plain(y, "a").ints(Feed.ONE).back(8).ints(0, 0).back(to);
       if (to == 4 || to == 16) {
-        fine("a tag", x);
+        fine("a tag", y);
       } else {
-        check.malformed("no tag at " + to, x, 40);
+        check.malformed("no tag at " + to, y, 40);
       }
-      chunked(x, "a").ints(12, 0).back(to).ints(-1);
+      chunked(y, "a").ints(12, 0).back(to).ints(-1);
       if (to == 4) {
-        fine("its own tag, in a chunk", x);
+        fine("its own tag, in a chunk", y);
       } else {
-        check.malformed("no tag at " + to + ", in a chunk", x, 28);
+        check.malformed("no tag at " + to + ", in a chunk", y, 28);
       }
     }
+    ValueStream x = typed("a", 4, 4);
     for (int d : new int[] {LEAST, MOST, LEAST + 600, MOST - 19, -600, 600}) {
       plain(x, "a").ints(-1, d, 0);
       check.malformed("d " + d, x, 20);
@@ -433,11 +428,10 @@ public final class ReadingTest {
 
   private static void orders() {
     check.about("The order must be there, 0 or 1: otherwise at 0.");
-    ValueStream x = new ValueStream();
-    check.malformed("not there", x, 0);
-    x.feed(0, 8);
+    check.malformed("not there", new ValueStream(), 0);
     for (int v = 0; v < 256; v++) {
-      x.spoil(0, v);
+      ValueStream x = new ValueStream();
+      x.feed(v, 8);
       check.same("order " + v, x.read(), v < 2 ? -1 : -2);
     }
   }
@@ -778,8 +772,8 @@ public final class ReadingTest {
   private static void tooDeep() {
     check.about("Throws UnsupportedOperationException when it comes to a tag"
         + " (an int from 7FFFFF00h on) of a value that lies more than 12 deep");
-    ValueStream x = typed("a", 4);
     for (int i = 0; i < 2; i++) {
+      ValueStream x = typed("a", 4);
       boolean inChunks = i == 1;
       deep(x, inChunks, 13, 99);
       check.fails("13", TOO_DEEP, () -> x.read());
@@ -792,6 +786,7 @@ public final class ReadingTest {
       deep(x, inChunks, 12, 99);
       check.malformed("nor nothing", x, x.size() + 3 & -4);
     }
+    ValueStream x = typed("a", 4);
     deep(x, false, 12, 99).ints(0);
     fine("0, 13 deep", x);
     deep(x, false, 12, 99).back(4);
@@ -806,14 +801,15 @@ public final class ReadingTest {
 
   private static void beforeTheTag() {
     check.about("before it looks at that tag");
-    ValueStream x = typed("a", 4);
     for (int low : new int[] {0, 1, 2, 6, 10, 14, 255}) {
-      x.clear();
-      deep(x, false, 12, 99).ints(Feed.TAG + low);
-      check.fails("in plain ones, with " + low, TOO_DEEP, () -> x.read());
-      deep(x, true, 12, 99).ints(Feed.TAG + low);
-      check.fails("in chunked ones, with " + low, TOO_DEEP, () -> x.read());
+      ValueStream y = typed("a", 4);
+      deep(y, false, 12, 99).ints(Feed.TAG + low);
+      check.fails("in plain ones, with " + low, TOO_DEEP, () -> y.read());
+      deep(y, true, 12, 99).ints(Feed.TAG + low);
+      check.fails("in chunked ones, with " + low, TOO_DEEP, () -> y.read());
     }
+    ValueStream x = typed("a", 4);
+    deep(x, true, 12, 99).ints(Feed.ONE_CHUNKED);
     for (int i = 0; i < 12; i++) {
       x.node(0);
     }
@@ -836,9 +832,9 @@ public final class ReadingTest {
 
   private static void passedCount() {
     check.about("those passed over count, too");
-    ValueStream x = typed("a", 4);
-    addType(x, "c", -1);
     for (int from = 3; from <= 12; from++) {
+      ValueStream x = typed("a", 4);
+      addType(x, "c", -1);
       close(deep(x, true, 12, from), 12);
       fine("12, passed over from " + from, x);
       for (int low : new int[] {0, 2, 10, 255}) {

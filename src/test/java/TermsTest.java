@@ -241,7 +241,7 @@ public final class TermsTest {
     ValueStream x = typed("a", 0, 1, 2, 3);
     addType(x, "b", 0, 4);
     for (int time = 0; time < 2; time++) {
-      for (int node = 0; node < 24; node++) {
+      for (int node = 0; node < 20; node++) {
         x.node(1);
         for (int k = 0; k < 5; k++) {
           check.same("field " + k, x.get(node, k), k == 4 ? -1 : 0);
@@ -614,7 +614,8 @@ public final class TermsTest {
     x.set(0, 0, 1);
     x.set(0, 1, 7);
     Feed due = due().ints(Feed.ONE_CHUNKED).name("a").ints(Feed.ONE_CHUNKED).name("b").ints(-2);
-    written("no chunk before a tag", x, true, false, due.ints(2).number(7, 1).number(0, 1).ints(-1));
+    due.ints(2).number(7, 1).number(0, 1).ints(-1);
+    written("no chunk before a tag", x, true, false, due);
     check.same("read", x.read(), 2);
   }
 }
